@@ -775,8 +775,10 @@ public final class BuyersArm {
         }
 
         private static int fewestOf(int[] others, int length, int rest, int ell, int low, int high) {
-            for (int n = 1; n <= MOST_TOTAL && n * length <= high; n++) {
-                int last = Math.min(high - n * length, MOST_TOTAL);
+            // With an arm of this one too much, its last ell would be bought for nothing.
+            int enough = Math.min(high, low + length - 1);
+            for (int n = 1; n <= MOST_TOTAL && n * length <= enough; n++) {
+                int last = Math.min(enough - n * length, MOST_TOTAL);
                 for (int total = Math.max(0, low - n * length); total <= last; total++) {
                     if (others[total] == rest - n * ell) {
                         return n;

@@ -68,6 +68,10 @@ public final class AskedTest {
         }
         x.plaster(2, 10);
         check.due("arm of now", x.ask(3, 0), 30);
+        BuyersArm short6 = Check.with("A0100A0100A0100A0100A0100A0100");
+        short6.come(5, 1);
+        check.due("of the sixth", short6.ask(2, 0), 2);
+        check.due("earned of the sixth", short6.earned(2, 2, 0), 100002);
     }
 
     private static void keeper() {
@@ -110,6 +114,14 @@ public final class AskedTest {
         check.due("e 100", x.losers(100), BuyersArm.BAD);
         check.due("e -1", x.losers(-1), BuyersArm.BAD);
         check.due("nobody", new BuyersArm().fairest(), 1);
+        BuyersArm six = Check.with("A0200A0200A0200A0200A0200A0200");
+        check.due("all six lose", six.losers(1), 6);
+        check.due("fairest of six", six.fairest(), 2);
+        Check.tell(six, "A0200");
+        six.market();
+        check.due("those before are gone", six.losers(1), 1);
+        six.market();
+        check.due("and still are", six.losers(1), 1);
     }
 
     private static void cut(BuyersArm x, int l, int people, int left, int ells) {
@@ -161,6 +173,7 @@ public final class AskedTest {
         check.due("cheap now", x.when(0, 1, 9, 9), 0);
         x.plaster(0, 10);
         check.due("alike in all years", x.when(0, 0, 1, 1), 0);
+        check.due("in a year", Check.with("A9800C990000").when(0, 0, 1, 1), 1);
         // Year 30 is the last.
         x.plaster(0, 1);
         check.due("slowly", x.when(0, 0, 1, 1), 30);

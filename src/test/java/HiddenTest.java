@@ -7,6 +7,7 @@ public final class HiddenTest {
         unheld();
         rowsOfEachPair();
         severalHeld();
+        pinned();
         arm();
         check.end();
     }
@@ -97,6 +98,28 @@ public final class HiddenTest {
         check.due("greatest 1", x.arm(1, true), 10);
         check.due("least 2", x.arm(2, false), 1);
         check.due("greatest 2", x.arm(2, true), 5);
+    }
+
+    private static void pinned() {
+        BuyersArm x = new BuyersArm();
+        x.held(1, 4, 0, 5, 0);
+        x.held(1, 3, 2, 4, 0);
+        pinned(x, 16, 20, 15);
+        x.unheld();
+        x.held(1, 1, 0, 9, 1);
+        x.held(2, 1, 0, 1, -1);
+        check.due("rows", x.mayBe(), 2);
+        check.due("least 2", x.arm(2, false), 1);
+        check.due("greatest 2", x.arm(2, true), 1);
+        check.due("least 1", x.arm(1, false), 19);
+    }
+
+    private static void pinned(BuyersArm x, int... arms) {
+        check.due("one row", x.mayBe(), 1);
+        for (int one = 0; one < 3; one++) {
+            check.due("least " + one, x.arm(one, false), arms[one]);
+            check.due("greatest " + one, x.arm(one, true), arms[one]);
+        }
     }
 
     private static void arm() {

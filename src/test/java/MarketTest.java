@@ -233,6 +233,13 @@ public final class MarketTest {
         Check.tell(x, "A3005C070400A1802");
         x.market();
         check.due("barred no more", x.barred(1, 0), 0);
+        for (int i = 0; i < 3; i++) {
+            check.due("no comers", x.person(0, 4), 0);
+            check.due("no keeper", x.person(1, 5), 0);
+            x.come(0, 3);
+            x.keeper(1, true);
+            check.due("market anew", x.market(), 2);
+        }
     }
 
     private static void person() {

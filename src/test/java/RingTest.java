@@ -53,6 +53,7 @@ public final class RingTest {
         check.due("unchange of none", x.unchange(), 0);
         x.exchange(0, 1, 1, 1, 1);
         x.exchange(1, 0, 1, 1, 1);
+        ring(x, 0, 10, 1, 0, 1);
         check.due("unchange", x.unchange(), 2);
         check.due("none", x.count(3), 0);
         ring(x, 0, BuyersArm.NONE, BuyersArm.NONE);
@@ -68,6 +69,10 @@ public final class RingTest {
         ring(x, 1, 32, 15, 0, 1);
         x.plaster(0, 1);
         ring(x, 0, 4, 75, 0, 1);
+        // Each call looks anew.
+        check.due("ringAt ahead of a change", x.ringAt(0, 0), 0);
+        x.exchange(1, 0, 1, 9, 1);
+        check.due("ringAt behind a change", x.ringAt(0, 1), 2);
         // Between two goods that are no coins the arms count on both sides.
         x.unchange();
         x.exchange(1, 2, 2, 3, 10);
@@ -78,10 +83,11 @@ public final class RingTest {
         x.exchange(2, 0, 1, 7, 30);
         x.exchange(0, 1, 3, 2, 1);
         x.exchange(1, 2, 1, 1, 50);
-        ring(x, 1, 7L * 80 * 40, 30L * 3 * 50 / 1, new int[0], 0, 1, 2);
+        ringOf(x, 1, 7L * 80 * 40, 30L * 3 * 50, 0, 1, 2);
     }
 
-    private static void ring(BuyersArm x, int person, long above, long below, int[] none, int... numbers) {
+    /** The same, where the gain is not in least terms yet. */
+    private static void ringOf(BuyersArm x, int person, long above, long below, int... numbers) {
         long a = above;
         long b = below;
         while (b != 0) {
@@ -99,12 +105,11 @@ public final class RingTest {
         x.exchange(0, 2, 1, 1, 1);
         x.exchange(1, 2, 1, 1, 1);
         ring(x, 0, BuyersArm.NONE, BuyersArm.NONE);
-        x.exchange(2, 0, 1, 1, 20);
         // A ring may end with less than it began.
         x.unchange();
         x.exchange(0, 1, 9, 1, 1);
         x.exchange(1, 0, 9, 1, 99);
-        ring(x, 0, 20, 9L * 9 * 99, new int[0], 0, 1);
+        ringOf(x, 0, 20, 9L * 9 * 99, 0, 1);
     }
 
     private static void bestOfSeveral() {
@@ -151,12 +156,28 @@ public final class RingTest {
         x.exchange(0, 1, 7, 8, 1);
         x.exchange(1, 2, 7, 8, 99);
         x.exchange(2, 0, 7, 8, 98);
-        ring(x, 0, 8L * 8 * 8 * 97 * 97, 7L * 7 * 7 * 99 * 98, new int[0], 0, 1, 2);
+        ringOf(x, 0, 8L * 8 * 8 * 97 * 97, 7L * 7 * 7 * 99 * 98, 0, 1, 2);
         x.unchange();
         x.plaster(0, 99);
         x.exchange(1, 2, 1, 9, 1);
         x.exchange(2, 1, 1, 9, 1);
         ring(x, 0, 9L * 9 * 99 * 99, 1, 0, 1);
+        // Of eight exchanges the last two; what was there ahead of an unchange is no more.
+        for (int i = 0; i < 4; i++) {
+            x.exchange(0, 1, 9, 1, 9);
+        }
+        x.exchange(2, 1, 1, 9, 1);
+        x.exchange(1, 2, 1, 9, 1);
+        ring(x, 0, 9L * 9 * 99 * 99, 1, 0, 1);
+        x.unchange();
+        for (int i = 0; i < 6; i++) {
+            x.exchange(0, 1, 9, 1, 9);
+        }
+        ring(x, 0, BuyersArm.NONE, BuyersArm.NONE);
+        x.exchange(2, 1, 1, 9, 1);
+        ring(x, 0, BuyersArm.NONE, BuyersArm.NONE);
+        x.exchange(1, 2, 1, 9, 1);
+        ring(x, 0, 9L * 9 * 99 * 99, 1, 6, 7);
     }
 
     private static void refusals() {

@@ -60,6 +60,11 @@ public final class SalesTest {
         check.due("the other stock", x.counter(0, 1), 370);
         check.due("the arm is as it is", x.person(0, 0), 50);
         check.due("spent", x.person(0, 2), 21);
+        check.due("got", x.person(0, 3), 30);
+        check.due("took", x.counter(1, 2), 0);
+        check.due("sold", x.counter(1, 3), 0);
+        check.due("lost", x.counter(1, 4), 1000000);
+        check.due("lost by the other", x.counter(0, 4), 1000000 - 60);
         check.due("undo", x.undo(), 0);
         check.due("stock", x.counter(0, 1), 400);
         check.due("undo of none", x.undo(), BuyersArm.LATE);

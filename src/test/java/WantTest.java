@@ -87,6 +87,11 @@ public final class WantTest {
         // 1 1 3, 1 2 2, 1 3 1 are like ones.
         x = Check.with("A0800A1300A1400C010063");
         want(x, 0, 61, 5, 1, 1, 3);
+        // The first row of ells is too much for the stock: 1 3 is 43 parts, 1 1 4 is 59.
+        x = Check.with("A1000A1100C010042");
+        want(x, 0, 41, 4, 2, 2);
+        x = Check.with("A0500A1000A1100C010058");
+        want(x, 0, 57, 6, 1, 2, 3);
         // 2 1 3, 2 2 2, 2 3 1 are like ones; somebody who is barred stands between.
         x = Check.with("A0400A6300A1300A1400C010063N10");
         want(x, 0, 61, 6, 2, 0, 1, 3);
