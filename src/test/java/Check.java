@@ -2,12 +2,18 @@
 final class Check {
     private int wrong;
     private int asked;
+    private String sentence = "";
+
+    /** The words of the document that the answers behind this call are held against. */
+    void sentence(String words) {
+        sentence = words;
+    }
 
     void due(String call, long got, long want) {
         asked++;
         if (got != want) {
             wrong++;
-            System.out.println(call + " answered " + got + ", due is " + want);
+            System.out.println((sentence.isEmpty() ? "" : "[" + sentence + "] ") + call + " answered " + got + ", due is " + want);
         }
     }
 

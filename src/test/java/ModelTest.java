@@ -2,7 +2,10 @@ import java.util.Random;
 
 /** Runs of mixed calls, answered by BuyersArm and by PlainArm alike. The seeds are fixed. */
 public final class ModelTest {
-    private static final int RUNS = 400;
+    private static final int RUNS = 600;
+    private static final int CALLS_OF_AN_OBJECT = 512;
+    // What a market that is told byte by byte takes.
+    private static final int MOST_AT_ONCE = 120;
     private static final int[] FAR = {Integer.MIN_VALUE, Integer.MIN_VALUE + 1, -1000, -2, -1, 0, 1, 7, 8, 31, 32, 33, 63, 64, 99, 100,
         999, 1000, 1 << 30, Integer.MAX_VALUE - 1, Integer.MAX_VALUE};
 
@@ -13,6 +16,7 @@ public final class ModelTest {
     private final boolean smallArms;
     private int people;
     private int counters;
+    private int calls;
 
     private ModelTest(Check check, int seed) {
         this.check = check;
@@ -29,12 +33,17 @@ public final class ModelTest {
     }
 
     private void run(int seed) {
-        for (int i = 0; i < 512; ) {
-            i += random.nextInt(60) == 0 || i == 0 ? tellMarket(seed) : oneCall(seed);
+        while (calls + MOST_AT_ONCE <= CALLS_OF_AN_OBJECT) {
+            if (calls == 0 || random.nextInt(60) == 0) {
+                tellMarket(seed);
+            } else {
+                oneCall(seed);
+            }
         }
     }
 
     private void due(int seed, String call, long got, long want) {
+        calls++;
         check.due("seed " + seed + ": " + call, got, want);
     }
 
@@ -87,11 +96,10 @@ public final class ModelTest {
         return text.toString();
     }
 
-    private int tellMarket(int seed) {
-        int calls = 3;
+    private void tellMarket(int seed) {
         due(seed, "wipe", x.wipe(), plain.wipe());
         String text = marketText();
-        for (int from = 0; from < text.length(); calls++) {
+        for (int from = 0; from < text.length(); ) {
             int n = Math.min(1 + random.nextInt(8), text.length() - from);
             long v = random.nextLong() << (8 * n - 1) << 1 | Check.packed(text.substring(from, from + n));
             due(seed, "write(" + n + ", " + v + ")", x.write(n, v), plain.write(n, v));
@@ -101,10 +109,9 @@ public final class ModelTest {
         due(seed, "market of " + text, x.market(), plain.market());
         people = plain.count(0);
         counters = plain.count(1);
-        return calls;
     }
 
-    private int oneCall(int seed) {
+    private void oneCall(int seed) {
         int die = random.nextInt(35);
         if (die < 12) {
             market(seed, die);
@@ -113,7 +120,6 @@ public final class ModelTest {
         } else {
             others(seed, die);
         }
-        return 1;
     }
 
     private void market(int seed, int die) {

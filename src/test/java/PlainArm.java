@@ -1,3 +1,4 @@
+import java.math.BigInteger;
 import java.util.ArrayList;
 import java.util.HashSet;
 import java.util.List;
@@ -214,10 +215,8 @@ final class PlainArm {
     }
 
     private static long side(long above, long below, boolean upper) {
-        for (long d = Math.min(above, below); d > 1; d--) {
-            if (above % d == 0 && below % d == 0) return (upper ? above : below) / d;
-        }
-        return upper ? above : below;
+        long divisor = BigInteger.valueOf(above).gcd(BigInteger.valueOf(below)).longValueExact();
+        return (upper ? above : below) / divisor;
     }
 
     int truly(int person, int counter, boolean upper) {
