@@ -141,6 +141,15 @@ public final class AskedEdgesTest {
         x.come(3, 1);
         check.due("the least of all", x.ask(1, 0), 1);
         check.due("the least at a loss", x.ask(1, 9), 2);
+        // 1 of ten is more than 5 of one.
+        x = Check.with("A0100A0500");
+        x.come(0, 9);
+        x.come(1, 1);
+        check.due("1, though others earn too", x.ask(1, 0), 1);
+        x.plaster(1, 11);
+        check.due("11 earns more", x.ask(1, 0), 11);
+        x.plaster(1, 10);
+        check.due("10 earns as much", x.ask(1, 0), 1);
     }
 
     private static void likeOnesToAsk() {

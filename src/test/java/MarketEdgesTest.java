@@ -20,6 +20,7 @@ public final class MarketEdgesTest {
         plasterLeavesSales();
         commonBounds();
         whatIsCounted();
+        theLastOfItsCalls();
         check.end();
     }
 
@@ -296,5 +297,16 @@ public final class MarketEdgesTest {
         for (int what : bad) {
             check.due("count " + what, x.count(what), BuyersArm.BAD);
         }
+    }
+
+    private static void theLastOfItsCalls() {
+        check.sentence("An object is used for at most 512 calls after it has been made");
+        // Three calls tell the market.
+        BuyersArm x = Check.with("A0100C019999");
+        for (int calls = 4; calls < 512; calls += 2) {
+            check.due("buy, call " + calls, x.buy(0, 0, 99), 99);
+            check.due("undo, call " + (calls + 1), x.undo(), 0);
+        }
+        check.due("stock, call 512", x.counter(0, 1), 9999);
     }
 }

@@ -7,6 +7,7 @@ public final class SlotsEdgesTest {
         noneWereKept();
         nobodyIsKept();
         noneAndTwelveSales();
+        allTwelveAreKept();
         eachSlotItsOwn();
         keptOver();
         keptIsApart();
@@ -82,6 +83,30 @@ public final class SlotsEdgesTest {
         for (int i = 0; i < 12; i++) {
             check.due("sale " + i, x.sale(i, 2), i + 1);
             check.due("sale " + i, x.sale(i, 3), i + 1);
+        }
+    }
+
+    private static void allTwelveAreKept() {
+        check.sentence("They are as they were kept: each of twelve SALES, though twelve others came behind it");
+        BuyersArm x = Check.with("A0100A0200C019999C019999");
+        for (int i = 0; i < 12; i++) {
+            x.buy(i % 2, i / 2 % 2, i + 1);
+        }
+        for (int slot = 0; slot < 2; slot++) {
+            check.due("keep", x.keep(slot), 12);
+            for (int i = 0; i < 12; i++) {
+                x.undo();
+            }
+            for (int i = 0; i < 12; i++) {
+                x.buy((i + 1) % 2, (i / 2 + 1) % 2, i + 51);
+            }
+            check.due("again", x.again(slot), 12);
+            for (int i = 0; i < 12; i++) {
+                check.due("person of " + i, x.sale(i, 0), i % 2);
+                check.due("counter of " + i, x.sale(i, 1), i / 2 % 2);
+                check.due("ells of " + i, x.sale(i, 2), i + 1);
+                check.due("parts of " + i, x.sale(i, 3), (i + 1) * (i % 2 + 1));
+            }
         }
     }
 
