@@ -301,12 +301,13 @@ public final class MarketEdgesTest {
 
     private static void theLastOfItsCalls() {
         check.sentence("An object is used for at most 512 calls after it has been made");
-        // Three calls tell the market.
+        // Four calls tell the market: the text is wiped, comes in two, and is made one.
         BuyersArm x = Check.with("A0100C019999");
-        for (int calls = 4; calls < 512; calls += 2) {
+        for (int calls = 5; calls < 511; calls += 2) {
             check.due("buy, call " + calls, x.buy(0, 0, 99), 99);
             check.due("undo, call " + (calls + 1), x.undo(), 0);
         }
+        check.due("got, call 511", x.person(0, 3), 0);
         check.due("stock, call 512", x.counter(0, 1), 9999);
     }
 }
