@@ -25,6 +25,7 @@ public final class RefusedTest {
     private static final Check check = new Check();
 
     public static void main(String[] args) {
+        allIsThere();
         List<Call> edges = edges();
         situation("nobody", List.of(), edges);
         situation("people alone", told("A0100A9999"), edges);
@@ -32,6 +33,18 @@ public final class RefusedTest {
         situation("some", some(), edges);
         situation("all that may be", all(), edges);
         check.end();
+    }
+
+    /** Else FULL would be nowhere to be seen. */
+    private static void allIsThere() {
+        BuyersArm x = new BuyersArm();
+        answers(x, all(), List.of());
+        int[] most = {6, 4, 12, 8, 8, 98, 71};
+        for (int what = 0; what < most.length; what++) {
+            check.due("of all that may be, count " + what, x.count(what), most[what]);
+        }
+        check.due("what was kept first", x.again(0), 0);
+        check.due("what was kept last", x.again(1), 12);
     }
 
     private static void situation(String name, List<Call> before, List<Call> edges) {
@@ -201,7 +214,7 @@ public final class RefusedTest {
 
     /** As many of each as there may be; 71 bytes of text, and no room for its last part. */
     private static List<Call> all() {
-        List<Call> calls = told("A0100A0299A0301A0402A0503A9904C010005C029999C030003C990004N00N53N31N30");
+        List<Call> calls = told("A0100A0299A0301A0402A0503A9904C010005C029999C030003C990004N00N53N32N30");
         calls.add(new Call("keep", 0));
         for (int i = 0; i < 12; i++) {
             calls.add(new Call("buy", i % 6, 1, i + 1));
