@@ -430,6 +430,13 @@ public final class BuyersArm {
         return within(v, 1, 99) && within(k, 0, 9);
     }
 
+    private static int signOf(int difference) {
+        if (difference == 0) {
+            return 0;
+        }
+        return difference < 0 ? -1 : 1;
+    }
+
     private static long inLeastTerms(long above, long below, boolean upper) {
         long divisor = above;
         long rest = below;
@@ -925,7 +932,7 @@ public final class BuyersArm {
             int start = (lower + higher - 1) * LONGEST_HIDDEN;
             for (int i = 0; i < LONGEST_HIDDEN; i++) {
                 for (int j = 0; j < LONGEST_HIDDEN; j++) {
-                    if (Integer.compare(e * (i + 1), f * (j + 1)) != sign) {
+                    if (signOf(e * (i + 1) - f * (j + 1)) != sign) {
                         misfits[start + i] |= 1 << j;
                     }
                 }
